@@ -11,6 +11,11 @@ public final class PromisesTest {
         {0, 88, -1}, {1, 43, 0}, {2, 2, -1}, {2, 87, -1}, {6, 47, -1},
         {6, 32, -1}, {2, 62, -1}, {1, 38, 0}, {5, 1, 1}, {0, 2, -1},
         {0, 80, -1}, {5, 15, 7}, {3, 25, 10}, {2, 15, -1}, {6, 62, 8}};
+    // Here acts refer to ships, and rows to acts and to declarations.
+    private static final int[][] SEED_2024_SIZE_12 = {
+        {0, 2, -1}, {1, 26, 0}, {2, 95, -1}, {3, 12, 0}, {5, 21, 3},
+        {5, 1, 1}, {4, 39, 2}, {6, 45, 4}, {2, 27, -1}, {6, 10, 6},
+        {6, 86, 6}, {1, 15, 0}, {2, 33, -1}, {5, 0, 3}, {3, 51, 0}};
     private static final int[][] LOWEST_SEED_SIZE_5 = {
         {0, 31, -1}, {1, 48, 0}, {2, 60, -1}, {0, 67, -1},
         {5, 99, 1}, {3, 79, 0}, {6, 69, 4}, {1, 21, 0}};
@@ -83,6 +88,7 @@ public final class PromisesTest {
     private static void promise2Draw() {
         dueHarbour("seed 0", SEED_0_SIZE_12, drawn(0L, 12));
         dueHarbour("seed -1", SEED_MINUS_1_SIZE_12, drawn(-1L, 12));
+        dueHarbour("seed 2024", SEED_2024_SIZE_12, drawn(2024L, 12));
         dueHarbour("lowest seed", LOWEST_SEED_SIZE_5, drawn(Long.MIN_VALUE, 5));
         dueHarbour("highest seed", HIGHEST_SEED_SIZE_5, drawn(Long.MAX_VALUE, 5));
         dueHarbour("seed 516", SEED_516_SIZE_8, drawn(516L, 8));
